@@ -94,6 +94,10 @@ public final class AheadTest {
         far.sway(0, 0);
         far.bake(1);
         check.none("not in 99 days", far, far.starving(), 6);
+        LoafTable last = Check.laid("slices 60;loaf 36;guest a wish 9 bears 2 dear 0 stays;");
+        check.due("96 days of bread, 3 of hunger", last.starving(), 99);
+        last.bake(37);
+        check.none("in 100 days is too late", last, last.starving(), 6);
         LoafTable nobody = new LoafTable();
         check.none("nobody is THERE", nobody, nobody.starving(), 6);
     }
@@ -104,6 +108,10 @@ public final class AheadTest {
         check.due("for three days", x.least(3), 6);
         check.due("for 20 days", x.least(20), 40);
         check.due("the LOAF stays", x.told(4), 8);
+        x.sit(0, 0, 0, 0);
+        check.due("three for 20 days", x.least(20), 60);
+        x.sit(0, 0, 0, 0);
+        check.none("four can't", x, x.least(20), 6);
         check.none("least(0)", x, x.least(0), 1);
         check.none("least(21)", x, x.least(21), 1);
         LoafTable y = Check.laid("guest a wish 0 bears 0 dear 0;");

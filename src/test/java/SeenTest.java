@@ -5,6 +5,7 @@ public final class SeenTest {
         alone(check);
         faults(check);
         together(check);
+        asks(check);
         check.end();
     }
 
@@ -44,6 +45,27 @@ public final class SeenTest {
         x.cut(0);
         twos(x, 0, 0, 0);
         check.due("of one who is GONE", x.seen(0, 0, 1), 90);
+    }
+
+    private static void asks(Check check) {
+        LoafTable x = Check.laid("slices 19;guest a wish 0 bears 20 dear 0;");
+        x.tray(0, 0, 4);
+        check.due("bread to the last day but one", x.ask(0, 0, 0), 20);
+        check.due("once more", x.ask(0, 0, 0), 20);
+        LoafTable y = new LoafTable();
+        Check.table(y, "loaf 60;slices 56;");
+        for (int i = 0; i < 7; i++) {
+            y.sit(0, 20, 0, 0);
+        }
+        y.tray(0, 0, 4);
+        check.due("seven or six are THERE, by halves, on the ninth day first", y.ask(0, 0, 0), 9);
+        check.due("once more", y.ask(0, 0, 0), 9);
+        LoafTable z = Check.laid("guest a wish 0 bears 20 dear 0;");
+        z.tray(0, 0, 4);
+        twos(z, 0, 8, 1, 9, 0);
+        check.due("RESOLVE 8, WISH 0 and RESOLVE 9, WISH 1", z.seen(0, 0, 2), 2);
+        check.due("two can be asked about", z.ask(0, 0, 2), 0);
+        check.due("STATUS", z.status(), 0);
     }
 
     private static void twos(LoafTable x, int tray, int... numbers) {

@@ -33,6 +33,12 @@ public final class TextTest {
         check.due("the highest byte of each int first", x.feed(0x6f646473, 0x20393b41, 0, 0, 0), 20);
         check.due("only the first n are read", x.table(7), 0);
         check.due("told(1)", x.told(1), 9);
+        Check.feed(x, "oddsx 3;");
+        check.none("a WORD ends with the text", x, x.table(4), 9);
+        check.due("at the end", x.fault(1), 4);
+        Check.feed(x, "odds 123;");
+        check.none("a NUMBER, too", x, x.table(6), 9);
+        check.due("at the end", x.fault(1), 6);
         x.feed(0, 0, 0, 0, 0);
         check.none("a FAULT", x, x.table(1), 9);
         check.none("empties the tape, too", x, x.table(1), 1);

@@ -34,7 +34,9 @@ public final class TrayTest {
         check.not("write(4, 0, 1)", x, x.write(4, 0, 1), 1);
         check.not("write(0, 60, 1)", x, x.write(0, 60, 1), 3);
         check.not("write(0, -1, 1)", x, x.write(0, -1, 1), 3);
+        x.write(0, 0, 6);
         x.tray(0, 3, 2);
+        check.due("all are 0 again", x.read(0, 0), 0);
         check.none("read(0, 2) of a shorter row", x, x.read(0, 2), 3);
         x.write(0, 1, 7);
         check.not("tray(0, 9, 9)", x, x.tray(0, 9, 9), 1);

@@ -134,6 +134,8 @@ public final class WeeksTest {
         run(check, x, "loop 99;any;any;any;end;any;when bread=0;any;end;", 300, 298, 1);
         run(check, x, "loop 99;loop 99;loop 99;end;end;end;", 300, 0, 1);
         run(check, x, "loop 99;loop 2;any;end;end;", 298, 198, 0);
+        run(check, x, "any;".repeat(30), 30, 30, 0);
+        run(check, x, "loop 2;" + "any;".repeat(29) + "end;", 59, 58, 0);
         run(check, x, "stop;any;", 1, 0, 0);
         run(check, x, "loop 5;loop 5;stop;end;end;any;", 3, 0, 0);
         run(check, x, "loop 5;when bread=0;end;when bread>0;any;end;end;", 11, 0, 0);
