@@ -102,6 +102,9 @@ public final class LifeEdgeTest {
         lives("one who is GONE", y, "butter a b;butter a c;butter c a;butter a c;", 0, 4, 2);
         CHECK.due("to c", y.guest(0, 6), 2);
         CHECK.due("to one who is GONE", y.guest(2, 6), 0);
+        lives("to each of the others, then to that one again", y, "butter c b;butter c a;butter c a;butter c b;butter a b;", 0, 5, 1);
+        CHECK.due("c to b", y.guest(2, 6), 1);
+        CHECK.due("a to b", y.guest(0, 6), 1);
     }
 
     /** "a soup for one who is GONE, without HUNGER". */

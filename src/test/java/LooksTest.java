@@ -14,7 +14,7 @@ import java.util.function.ToLongFunction;
 public final class LooksTest {
     private static final Check CHECK = new Check("LooksTest");
     /** The STATUS that each promise lists in brackets, beside 0. */
-    private static final String[] LISTED = {"tray 1", "write 123", "read 123", "pour 1283", "table 19", "weeks 19", "told 1",
+    static final String[] LISTED = {"tray 1", "write 123", "read 123", "pour 1283", "table 19", "weeks 19", "told 1",
         "guest 16", "cutter 6", "wanted 6", "day 17", "cut 17", "butter 17", "soup 17", "bake 1", "sway 17", "sit 14", "come 17",
         "rule 1", "thereIn 1", "slicesIn 1", "guestIn 1", "next 6", "nextBy 6", "hangs ", "starving 6", "least 16", "plan 16",
         "planAt 16", "seen 1235", "seenAs 12356", "ask 12356", "waits 1", "chance 1", "stale 1", "share 167", "game 1", "moveOf 16",
